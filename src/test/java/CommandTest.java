@@ -23,11 +23,11 @@ public final class CommandTest {
     private static void rightOnes() {
         RiverJustifier x = Check.with(60, 50, "iii iii iii iii");
         due(x, "measure 24", 2);
-        CHECK.due("the measure", x.count(7), 24);
-        due(x, "hang 0", 2);
-        CHECK.due("the hang", x.count(8), 0);
+        dueSettings(x, 24, 50, 2);
+        due(x, "hang 7", 2);
+        dueSettings(x, 24, 7, 2);
         due(x, "river 20", 2);
-        CHECK.due("the tolerance", x.count(9), 20);
+        dueSettings(x, 24, 7, 20);
         due(x, "space word 1 2 3", 2);
         due(x, "space clause 4 5 6", 2);
         due(x, "space sentence 7 7 40", 2);
@@ -37,11 +37,26 @@ public final class CommandTest {
                 CHECK.due("width", x.spaceWidth(kind, what), widths[kind][what]);
             }
         }
+        dueSettings(x, 24, 7, 20);
         due(x, "measure 080", 1);
-        CHECK.due("zeros in front", x.count(7), 80);
+        dueSettings(x, 80, 7, 20);
+        due(x, "hang 000", 1);
+        dueSettings(x, 80, 0, 20);
+        due(x, "river 01", 1);
+        dueSettings(x, 80, 0, 1);
+        for (int what = 0; what < 3; what++) {
+            CHECK.due("the widths stay", x.spaceWidth(0, what), widths[0][what]);
+        }
+        due(x, "measure 090", 1);
         CHECK.due("the text stays", x.command(), 1);
         CHECK.due("its length", x.clearText(), 11);
         due(new RiverJustifier(), "measure 10", 0);
+    }
+
+    private static void dueSettings(RiverJustifier x, int measure, int hang, int tolerance) {
+        CHECK.due("the measure", x.count(7), measure);
+        CHECK.due("the hang", x.count(8), hang);
+        CHECK.due("the tolerance", x.count(9), tolerance);
     }
 
     private static void numberRanges() {

@@ -44,6 +44,9 @@ public final class LayoutTest {
         x.setMeasure(200);
         CHECK.dueRow("the last line may be short", Check.breaks(x), 3);
         CHECK.due("without badness", x.line(0, 4), 0);
+        RiverJustifier single = Check.with(10, 0, "aaa");
+        CHECK.due("by 1 only, without a space that stretches", single.count(1), 1);
+        CHECK.due("its demerits", single.count(2), 100);
         RiverJustifier y = Check.with(12, 50, "iiiiii iiiiii ii");
         CHECK.dueRow("lines of one word need the exact width", Check.breaks(y), 0, 1, 2);
         y.setMeasure(13);

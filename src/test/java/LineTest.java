@@ -126,6 +126,9 @@ public final class LineTest {
         // 25 of the words and 12 of the spaces.
         dueLine(x, 0, 0, 3, 38, 2, 0, 100, 0, 0, 38);
         dueSpaces(x, 0, 3, 4, 5);
+        x.setMeasure(39);
+        dueLine(x, 0, 0, 3, 38, 1, 0, 100, 0, 0, 38);
+        dueSpaces(x, 0, 3, 4, 5);
         x.setMeasure(38);
         dueLine(x, 0, 0, 3, 38, 0, 0, 100, 0, 0, 38);
         dueSpaces(x, 0, 3, 4, 5);

@@ -17,6 +17,7 @@ public final class RiverTest {
         wrongArguments();
         breaking();
         breakingAgain();
+        sameStrength();
         tenTimesAtMost();
         nothingToBreak();
         CHECK.end();
@@ -135,6 +136,27 @@ public final class RiverTest {
         CHECK.due("the strength", x.count(6), 0);
         CHECK.due("demerits", x.count(2), 3 * 12100 + 600);
         CHECK.dueRow("breaks", Check.breaks(x), 2, 5, 7, 10, 13, 15, 17, 20, 23);
+    }
+
+    private static void sameStrength() {
+        // Two words in any of the three lines break both rivers; a short word at its end costs 100.
+        // The words that end lines are 1, 4 and 7, or 2, 4 and 7, or 2, 5 and 7.
+        dueBreaks("iii iii iii iii iii iii iii iii iii", 0, 12100 + 300, 1, 4, 7, 8);
+        dueBreaks("iii aa iii iii iii iii iii iii iii", 0, 12100 + 300, 2, 4, 7, 8);
+        dueBreaks("iii aa iii iii aa iii iii iii iii", 0, 12100 + 300, 2, 5, 7, 8);
+        dueBreaks("iii iii iii iii iii iii iii aa iii", 0, 12200 + 300, 1, 4, 7, 8);
+        // Of four lines those in the middle break them; less strength counts before demerits.
+        dueBreaks("iii iii iii iii aa iii iii iii iii iii iii iii", 0, 12100 + 400, 2, 5, 7, 10, 11);
+        dueBreaks("iii iii iii iii iii iii iii aa iii iii iii iii", 0, 12200 + 400, 2, 4, 7, 10, 11);
+    }
+
+    private static void dueBreaks(String text, int strength, int demerits, long... breaks) {
+        RiverJustifier x = Check.with(24, 0, text);
+        x.setSpace(0, 1, 3, 12);
+        CHECK.due("breakRivers() of " + text, x.breakRivers(), 1);
+        CHECK.due("strength of " + text, x.count(6), strength);
+        CHECK.due("demerits of " + text, x.count(2), demerits);
+        CHECK.dueRow("breaks of " + text, Check.breaks(x), breaks);
     }
 
     private static void tenTimesAtMost() {
