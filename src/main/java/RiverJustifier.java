@@ -160,7 +160,7 @@ public final class RiverJustifier {
             case 3:
                 return bestWay.exists() ? bestWay.sums[0] : 0;
             case 4:
-                return layout.rivers.rivers;
+                return layout.rivers.amount;
             case 5:
                 return layout.rivers.greatestLength;
             case 6:
@@ -214,7 +214,7 @@ public final class RiverJustifier {
         if (!layout.hasLine(line)) {
             return UNKNOWN;
         }
-        int first = layout.firstWords[line];
+        int first = layout.firstWord(line);
         int last = layout.lastWord(line);
         switch (what) {
             case 0:
@@ -230,12 +230,12 @@ public final class RiverJustifier {
             case 5:
                 return rules.demerits(first, last);
             case 6:
-                return rules.leftHangs[first];
+                return at(rules.leftHangs, first);
             case 7:
-                return rules.rightHangs[last];
+                return at(rules.rightHangs, last);
             case 8:
-                return layout.endOf(last) - layout.begins[first]
-                    - rules.leftHangs[first] - rules.rightHangs[last];
+                return layout.endOf(last) - at(layout.begins, first)
+                    - at(rules.leftHangs, first) - at(rules.rightHangs, last);
             default:
                 return BAD_VALUE;
         }
@@ -245,20 +245,20 @@ public final class RiverJustifier {
         if (!layout.hasLine(line)) {
             return UNKNOWN;
         }
-        int first = layout.firstWords[line];
+        int first = layout.firstWord(line);
         if (space < 0 || space >= layout.lastWord(line) - first) {
             return UNKNOWN;
         }
         int before = first + space;
         switch (what) {
             case 0:
-                return layout.spaceWidths[before];
+                return at(layout.spaceWidths, before);
             case 1:
                 return layout.endOf(before);
             case 2:
-                return paragraph.kinds[before];
+                return at(paragraph.kinds, before);
             case 3:
-                return layout.rivers.lengths[before];
+                return at(layout.rivers.lengths, before);
             default:
                 return BAD_VALUE;
         }
@@ -285,7 +285,7 @@ public final class RiverJustifier {
         if (what == 0) {
             return last;
         }
-        return layout.demeritsBefore(line) + bestWay.sumWith(layout.firstWords[line], last);
+        return layout.demeritsBefore(line) + bestWay.sumWith(layout.firstWord(line), last);
     }
 
     public int worst(int rank) {
@@ -301,7 +301,7 @@ public final class RiverJustifier {
     }
 
     public int river(int river, int step) {
-        if (river < 0 || river >= layout.rivers.rivers) {
+        if (river < 0 || river >= layout.rivers.amount) {
             return UNKNOWN;
         }
         if (step < 0) {
@@ -311,8 +311,8 @@ public final class RiverJustifier {
         if (before == NOTHING) {
             return NONE;
         }
-        int line = layout.lineOf[before];
-        return line * 100 + before - layout.firstWords[line];
+        int line = at(layout.lineOf, before);
+        return line * 100 + before - layout.firstWord(line);
     }
 
     /** Reads a row at an index that comes out of another row; 0 if the row has no such place. */
@@ -463,7 +463,7 @@ public final class RiverJustifier {
 
         /** Is the piece from start to before end this name? */
         boolean isName(int start, int end, String name) {
-            if (end - start != name.length()) {
+            if (start < 0 || end > length || end - start != name.length()) {
                 return false;
             }
             for (int i = start; i < end; i++) {
@@ -476,7 +476,7 @@ public final class RiverJustifier {
 
         /** The number of 1 to 3 digits from start to before end, or NOTHING. */
         int numberAt(int start, int end) {
-            if (end - start < 1 || end - start > 3) {
+            if (start < 0 || end > length || end - start < 1 || end - start > 3) {
                 return NOTHING;
             }
             int number = 0;
@@ -581,7 +581,7 @@ public final class RiverJustifier {
 
         private int leastNumber(int index) {
             if (subject == SPACE) {
-                return index == 0 ? 1 : numbers[index - 1];
+                return index == 0 ? 1 : at(numbers, index - 1);
             }
             return subject == MEASURE ? LEAST_MEASURE : 0;
         }
@@ -757,6 +757,9 @@ public final class RiverJustifier {
         }
 
         int naturalWidth(int first, int last) {
+            if (first < 0 || last < first || last >= MOST_WORDS) {
+                return 0;
+            }
             int words = wordSums[last + 1] - wordSums[first];
             int spaces = naturalSums[last] - naturalSums[first];
             return words + spaces - leftHangs[first] - rightHangs[last];
@@ -769,7 +772,7 @@ public final class RiverJustifier {
                 return 0;
             }
             int[] sums = difference > 0 ? stretchSums : shrinkSums;
-            int room = sums[last] - sums[first];
+            int room = at(sums, last) - at(sums, first);
             if (room < 1 || room < Math.abs(difference)) {
                 return NOTHING;
             }
@@ -782,7 +785,7 @@ public final class RiverJustifier {
             if (badness == NOTHING) {
                 return NOTHING;
             }
-            boolean shortEnd = !isEnd(last) && paragraph.sizes[last] <= 2;
+            boolean shortEnd = !isEnd(last) && at(paragraph.sizes, last) <= 2;
             return (10 + badness) * (10 + badness) + (shortEnd ? 100 : 0);
         }
     }
@@ -825,7 +828,7 @@ public final class RiverJustifier {
 
         /** The demerits of this line and the best ones behind it, NOTHING if there is no way. */
         int sumWith(int first, int last) {
-            int behind = sums[last + 1];
+            int behind = at(sums, last + 1);
             if (behind == NOTHING) {
                 return NOTHING;
             }
@@ -845,6 +848,8 @@ public final class RiverJustifier {
         // One more than lines: behind the last line stands the number of words.
         final int[] firstWords;
         final int[] lineOf;
+        // The line of the space behind a word, NOTHING behind the last word of a line.
+        final int[] spaceLines;
         final int[] begins;
         final int[] spaceWidths;
         final Rivers rivers;
@@ -858,6 +863,7 @@ public final class RiverJustifier {
             demerits = 0;
             firstWords = new int[MOST_WORDS + 1];
             lineOf = new int[MOST_WORDS];
+            spaceLines = new int[MOST_WORDS];
             begins = new int[MOST_WORDS];
             spaceWidths = new int[MOST_WORDS];
             rivers = new Rivers();
@@ -867,28 +873,32 @@ public final class RiverJustifier {
             return line >= 0 && line < lines;
         }
 
+        int firstWord(int line) {
+            return hasLine(line) ? firstWords[line] : NOTHING;
+        }
+
         int lastWord(int line) {
-            return firstWords[line + 1] - 1;
+            return hasLine(line) ? firstWords[line + 1] - 1 : NOTHING;
         }
 
         int endOf(int word) {
-            return begins[word] + paragraph.widths[word];
+            return at(begins, word) + at(paragraph.widths, word);
         }
 
         int demeritsBefore(int line) {
             int sum = 0;
             for (int i = 0; i < line && i < lines; i++) {
-                sum += rules.demerits(firstWords[i], lastWord(i));
+                sum += rules.demerits(firstWord(i), lastWord(i));
             }
             return sum;
         }
 
         /** The number of lines that come before this one in the order of badness. */
         int linesWorseThan(int line) {
-            int badness = rules.badness(firstWords[line], lastWord(line));
+            int badness = rules.badness(firstWord(line), lastWord(line));
             int worse = 0;
             for (int i = 0; i < lines; i++) {
-                int other = rules.badness(firstWords[i], lastWord(i));
+                int other = rules.badness(firstWord(i), lastWord(i));
                 if (other > badness || (other == badness && i < line)) {
                     worse++;
                 }
@@ -898,7 +908,10 @@ public final class RiverJustifier {
 
         /** The last word of a line with its second choice, NOTHING if it has none. */
         int secondLast(int line) {
-            int first = firstWords[line];
+            if (!hasLine(line)) {
+                return NOTHING;
+            }
+            int first = firstWord(line);
             int present = lastWord(line);
             int found = NOTHING;
             int least = 0;
@@ -922,7 +935,7 @@ public final class RiverJustifier {
 
         void copyBreaks(Layout other) {
             lines = other.lines;
-            for (int line = 0; line <= lines; line++) {
+            for (int line = 0; line <= MOST_WORDS; line++) {
                 firstWords[line] = other.firstWords[line];
             }
         }
@@ -951,13 +964,15 @@ public final class RiverJustifier {
         private void settle() {
             demerits = 0;
             for (int line = 0; line < lines; line++) {
-                int first = firstWords[line];
+                int first = firstWord(line);
                 int last = lastWord(line);
-                demerits += rules.demerits(first, last);
-                shareOut(first, last);
-                placeWords(line, first, last);
+                if (paragraph.hasWord(first) && paragraph.hasWord(last)) {
+                    demerits += rules.demerits(first, last);
+                    shareOut(first, last);
+                    placeWords(line, first, last);
+                }
             }
-            rivers.find(this, settings.tolerance);
+            rivers.find(this, paragraph.words, settings.tolerance);
         }
 
         /** Makes the spaces of a line wider or narrower. */
@@ -995,6 +1010,7 @@ public final class RiverJustifier {
             int begin = -rules.leftHangs[first];
             for (int word = first; word <= last; word++) {
                 lineOf[word] = line;
+                spaceLines[word] = word < last ? line : NOTHING;
                 begins[word] = begin;
                 begin = endOf(word) + (word < last ? spaceWidths[word] : 0);
             }
@@ -1003,7 +1019,7 @@ public final class RiverJustifier {
 
     /** The rivers of a layout; a space has the number of the word before it. */
     private static final class Rivers {
-        int rivers;
+        int amount;
         int strength;
         int greatestLength;
         final int[] lengths;
@@ -1015,7 +1031,7 @@ public final class RiverJustifier {
         private final int[] ends;
 
         Rivers() {
-            rivers = 0;
+            amount = 0;
             strength = 0;
             greatestLength = 0;
             lengths = new int[MOST_WORDS];
@@ -1037,48 +1053,54 @@ public final class RiverJustifier {
             return space;
         }
 
-        void find(Layout layout, int tolerance) {
+        void find(Layout layout, int words, int tolerance) {
+            amount = 0;
+            strength = 0;
             greatestLength = 0;
-            for (int line = 0; line < layout.lines; line++) {
-                int last = layout.lastWord(line);
-                for (int space = layout.firstWords[line]; space < last; space++) {
-                    middles[space] = 2 * layout.endOf(space) + layout.spaceWidths[space];
-                    goesOn[space] = false;
-                    aboves[space] = line == 0 ? NOTHING
-                        : spaceAbove(layout.firstWords[line - 1], layout.lastWord(line - 1), space, tolerance);
+            if (layout.lines == 0) {
+                return;
+            }
+            for (int space = 0; space < words - 1; space++) {
+                middles[space] = 2 * layout.endOf(space) + layout.spaceWidths[space];
+                goesOn[space] = false;
+                if (layout.spaceLines[space] != NOTHING) {
+                    aboves[space] = spaceAbove(layout, space, 2 * tolerance);
                     lengths[space] = aboves[space] == NOTHING ? 1 : at(lengths, aboves[space]) + 1;
                     greatestLength = Math.max(greatestLength, lengths[space]);
                 }
             }
-            collectEnds(layout);
+            collectEnds(layout, words);
         }
 
-        /** Of the spaces above that are near, the leftmost one with the greatest length. */
-        private int spaceAbove(int first, int last, int space, int tolerance) {
+        /** Of the near spaces of the line above, the leftmost one with the greatest length. */
+        private int spaceAbove(Layout layout, int space, int farthest) {
+            int line = at(layout.lineOf, space) - 1;
+            if (line < 0) {
+                return NOTHING;
+            }
+            int middle = at(middles, space);
             int found = NOTHING;
-            for (int above = first; above < last; above++) {
-                if (Math.abs(middles[above] - middles[space]) > 2 * tolerance) {
+            for (int above = Math.min(space, MOST_WORDS) - 1; above >= 0 && layout.lineOf[above] >= line; above--) {
+                boolean near = Math.abs(middles[above] - middle) <= farthest;
+                if (!near || layout.spaceLines[above] != line) {
                     continue;
                 }
                 goesOn[above] = true;
-                if (found == NOTHING || lengths[above] > lengths[found]) {
+                // It goes from right to left, so of equal lengths the later one stands.
+                if (found == NOTHING || lengths[above] >= at(lengths, found)) {
                     found = above;
                 }
             }
             return found;
         }
 
-        private void collectEnds(Layout layout) {
-            rivers = 0;
-            strength = 0;
-            for (int line = 0; line < layout.lines; line++) {
-                int last = layout.lastWord(line);
-                for (int space = layout.firstWords[line]; space < last; space++) {
-                    if (lengths[space] >= SHORTEST_RIVER && !goesOn[space]) {
-                        ends[rivers] = space;
-                        rivers++;
-                        strength += lengths[space] - (SHORTEST_RIVER - 1);
-                    }
+        private void collectEnds(Layout layout, int words) {
+            for (int space = 0; space < words - 1; space++) {
+                boolean last = lengths[space] >= SHORTEST_RIVER && !goesOn[space];
+                if (last && layout.spaceLines[space] != NOTHING) {
+                    ends[amount] = space;
+                    amount++;
+                    strength += lengths[space] - (SHORTEST_RIVER - 1);
                 }
             }
         }
