@@ -21,15 +21,8 @@ public final class LayoutTest {
         CHECK.end();
     }
 
-    /** Words of width 6 and of three characters. */
-    private static RiverJustifier sixes(int words, int measure, int least, int natural, int greatest) {
-        RiverJustifier x = Check.with(measure, 50, "iii ".repeat(words));
-        x.setSpace(0, least, natural, greatest);
-        return x;
-    }
-
     private static void possibleLines() {
-        RiverJustifier x = sixes(4, 18, 2, 3, 6);
+        RiverJustifier x = Check.sixes(4, 18, 2, 3, 6);
         CHECK.dueRow("the greatest stretch", Check.breaks(x), 1, 3);
         CHECK.due("its demerits", x.count(2), 110 * 110 + 100);
         x.setMeasure(19);
@@ -54,7 +47,7 @@ public final class LayoutTest {
     }
 
     private static void noLayout() {
-        RiverJustifier x = sixes(4, 13, 2, 3, 6);
+        RiverJustifier x = Check.sixes(4, 13, 2, 3, 6);
         CHECK.due("layBest()", x.layBest(), NONE);
         CHECK.due("takeSecond(0)", x.takeSecond(0), UNKNOWN);
         CHECK.due("second(0, 0)", x.second(0, 0), UNKNOWN);
@@ -73,17 +66,17 @@ public final class LayoutTest {
 
     private static void tieOfLayouts() {
         // Three words in a line (D = -4 of 4) are as bad as two (D = 5 of 5).
-        RiverJustifier x = sixes(4, 20, 1, 3, 8);
+        RiverJustifier x = Check.sixes(4, 20, 1, 3, 8);
         CHECK.due("three and one, or two and two", x.count(2), 12200);
         CHECK.dueRow("more words come first", Check.breaks(x), 2, 3);
         CHECK.due("layBest()", x.layBest(), 2);
-        x = sixes(7, 20, 1, 3, 8);
+        x = Check.sixes(7, 20, 1, 3, 8);
         CHECK.due("3 3 1, 3 2 2 or 2 3 2", x.count(2), 24300);
         CHECK.dueRow("more words come first, and then again", Check.breaks(x), 2, 5, 6);
     }
 
     private static void seconds() {
-        RiverJustifier x = sixes(6, 20, 1, 3, 8);
+        RiverJustifier x = Check.sixes(6, 20, 1, 3, 8);
         CHECK.dueRow("best", Check.breaks(x), 2, 5);
         CHECK.due("its demerits", x.count(2), 24200);
         CHECK.due("second of the first line", x.second(0, 0), 1);
@@ -121,7 +114,7 @@ public final class LayoutTest {
 
     private static void tieOfSeconds() {
         // Three words: D = 1 of 22, badness 0; four: D = -9 of 9; two: D = 11 of 11.
-        RiverJustifier x = sixes(5, 27, 1, 4, 15);
+        RiverJustifier x = Check.sixes(5, 27, 1, 4, 15);
         CHECK.dueRow("best", Check.breaks(x), 2, 4);
         CHECK.due("its demerits", x.count(2), 200);
         CHECK.due("four and one, or two and three", x.second(0, 1), 12200);
@@ -147,7 +140,7 @@ public final class LayoutTest {
     }
 
     private static void worstLines() {
-        RiverJustifier x = sixes(6, 20, 1, 3, 8);
+        RiverJustifier x = Check.sixes(6, 20, 1, 3, 8);
         CHECK.due("two lines are as bad", x.worst(0), 0);
         CHECK.due("the lower number comes first", x.worst(1), 1);
         CHECK.due("there are no more", x.worst(2), NONE);

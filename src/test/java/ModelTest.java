@@ -23,7 +23,7 @@ public final class ModelTest {
     }
 
     public static void main(String[] args) {
-        for (int run = 1; run <= 250; run++) {
+        for (int run = 1; run <= 300; run++) {
             seed = run * 7919L;
             real = new RiverJustifier();
             model = new Model();
@@ -127,15 +127,16 @@ public final class ModelTest {
     private static void changeSettings() {
         int measure = 10 + next(next(3) > 0 ? 50 : 191);
         compareChange("setMeasure", () -> real.setMeasure(measure), () -> model.setMeasure(measure));
-        int hang = next(101);
+        int hang = next(4) > 0 ? next(101) : next(3) * 50;
         compareChange("setHang", () -> real.setHang(hang), () -> model.setHang(hang));
-        int tolerance = next(8);
+        int tolerance = next(next(5) > 0 ? 8 : 21);
         compareChange("setTolerance", () -> real.setTolerance(tolerance), () -> model.setTolerance(tolerance));
         for (int i = 0; i < 3; i++) {
             int kind = i;
-            int least = 1 + next(3);
-            int natural = least + next(4);
-            int greatest = natural + next(8);
+            boolean wide = next(6) == 0;
+            int least = 1 + next(wide ? 40 : 3);
+            int natural = least + next(wide ? 41 - least : 4);
+            int greatest = natural + next(wide ? 41 - natural : 8);
             compareChange("setSpace", () -> real.setSpace(kind, least, natural, greatest),
                 () -> model.setSpace(kind, least, natural, greatest));
         }

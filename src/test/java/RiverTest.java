@@ -23,13 +23,6 @@ public final class RiverTest {
         CHECK.end();
     }
 
-    /** Three words of width 6 in each line, with spaces at 6 and 15, until second choices are taken. */
-    private static RiverJustifier columns(int words) {
-        RiverJustifier x = Check.with(24, 0, "iii ".repeat(words));
-        x.setSpace(0, 1, 3, 12);
-        return x;
-    }
-
     private static void dueRiver(RiverJustifier x, int river, int... want) {
         for (int step = 0; step < want.length; step++) {
             CHECK.due("river(" + river + ", " + step + ")", x.river(river, step), want[step]);
@@ -44,7 +37,7 @@ public final class RiverTest {
     }
 
     private static void straightRivers() {
-        RiverJustifier x = columns(15);
+        RiverJustifier x = Check.columns(15);
         dueRivers(x, 2, 5, 6);
         dueRiver(x, 0, 400, 300, 200, 100, 0);
         dueRiver(x, 1, 401, 301, 201, 101, 1);
@@ -54,14 +47,14 @@ public final class RiverTest {
     }
 
     private static void shortRivers() {
-        dueRivers(columns(6), 0, 2, 0);
-        dueRivers(columns(9), 2, 3, 2);
-        dueRivers(columns(3), 0, 1, 0);
-        dueRivers(columns(1), 0, 0, 0);
+        dueRivers(Check.columns(6), 0, 2, 0);
+        dueRivers(Check.columns(9), 2, 3, 2);
+        dueRivers(Check.columns(3), 0, 1, 0);
+        dueRivers(Check.columns(1), 0, 0, 0);
     }
 
     private static void numbering() {
-        RiverJustifier x = columns(14);
+        RiverJustifier x = Check.columns(14);
         dueRivers(x, 2, 5, 5);
         // The right one ends a line above the left one.
         dueRiver(x, 0, 301, 201, 101, 1);
@@ -70,7 +63,7 @@ public final class RiverTest {
 
     private static void tolerance() {
         // Middles of the two spaces of a line differ by 18; the single space of a line lies 9 from both.
-        RiverJustifier x = columns(9);
+        RiverJustifier x = Check.columns(9);
         x.setTolerance(8);
         dueRiver(x, 1, 201, 101, 1);
         x.setTolerance(9);
@@ -90,7 +83,7 @@ public final class RiverTest {
 
     private static void meeting() {
         // In this tolerance all spaces of neighbouring lines are near: the leftmost one is gone to.
-        RiverJustifier x = columns(12);
+        RiverJustifier x = Check.columns(12);
         x.setTolerance(9);
         CHECK.dueRow("four lines", Check.breaks(x), 2, 5, 8, 11);
         dueRivers(x, 2, 4, 4);
@@ -105,7 +98,7 @@ public final class RiverTest {
     }
 
     private static void wrongArguments() {
-        RiverJustifier x = columns(15);
+        RiverJustifier x = Check.columns(15);
         for (int bad : new int[] {-1, 2, Integer.MIN_VALUE, Integer.MAX_VALUE}) {
             CHECK.due("no such river", x.river(bad, 0), UNKNOWN);
             CHECK.due("the river is looked at first", x.river(bad, -1), UNKNOWN);
@@ -116,7 +109,7 @@ public final class RiverTest {
     }
 
     private static void breaking() {
-        RiverJustifier x = columns(15);
+        RiverJustifier x = Check.columns(15);
         CHECK.due("breakRivers()", x.breakRivers(), 1);
         // Two words in the third line leave only spaces of lengths 1 and 2.
         CHECK.dueRow("breaks", Check.breaks(x), 2, 5, 7, 10, 13, 14);
@@ -130,7 +123,7 @@ public final class RiverTest {
 
     private static void breakingAgain() {
         // From 12 to 6 (of four lines the third, the first of them, is taken), then to 1, then to 0.
-        RiverJustifier x = columns(24);
+        RiverJustifier x = Check.columns(24);
         dueRivers(x, 2, 8, 12);
         CHECK.due("breakRivers()", x.breakRivers(), 3);
         CHECK.due("the strength", x.count(6), 0);
@@ -181,7 +174,7 @@ public final class RiverTest {
     }
 
     private static void nothingToBreak() {
-        RiverJustifier x = columns(6);
+        RiverJustifier x = Check.columns(6);
         CHECK.due("no rivers", x.breakRivers(), 0);
         CHECK.dueRow("nothing is taken", Check.breaks(x), 2, 5);
         RiverJustifier y = Check.with(24, 0, "iii ".repeat(15));
