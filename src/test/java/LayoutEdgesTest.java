@@ -337,6 +337,13 @@ public final class LayoutEdgesTest {
         y.setTolerance(20);
         CHECK.dueRow("three lines", Check.breaks(y), 1, 2, 4);
         CHECK.due("lines that are no neighbours", y.space(2, 0, 3), 1);
+        // The end of a line is no space, also if there was one in the layout before.
+        RiverJustifier z = Check.with(200, 0, ten + " " + ten + " " + "i".repeat(18) + " i");
+        z.setTolerance(10);
+        CHECK.due("a space behind the second word", z.space(0, 1, 3), 1);
+        z.setMeasure(43);
+        CHECK.dueRow("two lines", Check.breaks(z), 1, 3);
+        CHECK.due("below the end of a line", z.space(1, 0, 3), 1);
     }
 
     private static void tolerances() {

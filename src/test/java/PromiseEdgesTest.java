@@ -531,7 +531,8 @@ public final class PromiseEdgesTest {
         CHECK.due("lines of one word each", Check.with(12, 0, "iiiiii iiiiii ii").count(5), 0);
         CHECK.due("one space", Check.columns(2).count(5), 1);
         CHECK.due("not only of rivers", Check.columns(6).count(5), 2);
-        CHECK.due("the greatest, not the last", Check.columns(10).count(5), 3);
+        CHECK.due("the last line has no space", Check.columns(10).count(5), 3);
+        CHECK.due("that of the last line is 1", Check.with(24, 0, "iii iii iii iii iii iii iiiii iii").count(5), 2);
         CHECK.due("the longest", Check.with(10, 0, "m ".repeat(60)).count(5), 30);
     }
 
